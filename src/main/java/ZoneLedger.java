@@ -1533,18 +1533,17 @@ public final class ZoneLedger {
         private int first;
         int acts;
 
-        History() {
-            for (int i = 0; i < SLOTS; i++) {
-                drives[i] = new Drive();
-            }
-        }
-
         private int slot(int i) {
             return (first + i) % SLOTS;
         }
 
         void prepare(Drive drive) {
-            drives[slot(acts)].copyFrom(drive);
+            int slot = slot(acts);
+            // Made when first needed: most objects see few ACTS, and a drive is large.
+            if (drives[slot] == null) {
+                drives[slot] = new Drive();
+            }
+            drives[slot].copyFrom(drive);
         }
 
         void commit() {
@@ -1556,9 +1555,13 @@ public final class ZoneLedger {
         }
 
         void takeBack(Drive drive) {
-            if (acts > 0) {
-                acts--;
-                drive.copyFrom(drives[slot(acts)]);
+            if (acts == 0) {
+                return;
+            }
+            acts--;
+            Drive was = drives[slot(acts)];
+            if (was != null) {
+                drive.copyFrom(was);
             }
         }
 
