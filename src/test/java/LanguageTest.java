@@ -1,7 +1,12 @@
+import com.sun.source.tree.ArrayAccessTree;
 import com.sun.source.tree.AssertTree;
+import com.sun.source.tree.AssignmentTree;
+import com.sun.source.tree.BinaryTree;
+import com.sun.source.tree.BlockTree;
 import com.sun.source.tree.CatchTree;
 import com.sun.source.tree.ClassTree;
 import com.sun.source.tree.CompilationUnitTree;
+import com.sun.source.tree.CompoundAssignmentTree;
 import com.sun.source.tree.ImportTree;
 import com.sun.source.tree.LambdaExpressionTree;
 import com.sun.source.tree.LineMap;
@@ -14,9 +19,11 @@ import com.sun.source.tree.SynchronizedTree;
 import com.sun.source.tree.ThrowTree;
 import com.sun.source.tree.Tree;
 import com.sun.source.tree.TryTree;
+import com.sun.source.tree.UnaryTree;
 import com.sun.source.tree.VariableTree;
 import com.sun.source.util.JavacTask;
 import com.sun.source.util.SourcePositions;
+import com.sun.source.util.TreePath;
 import com.sun.source.util.TreePathScanner;
 import com.sun.source.util.Trees;
 import java.io.IOException;
@@ -30,6 +37,7 @@ import java.util.Set;
 import java.util.TreeSet;
 import javax.lang.model.element.Element;
 import javax.lang.model.element.Modifier;
+import javax.lang.model.type.TypeMirror;
 import javax.tools.JavaCompiler;
 import javax.tools.StandardJavaFileManager;
 import javax.tools.ToolProvider;
@@ -37,13 +45,23 @@ import javax.tools.ToolProvider;
 /** The rules of LANGUAGE.md that can be counted: sizes, depth of calls, what is left out of the language. */
 public final class LanguageTest {
     private static final Path SOURCE = Path.of("src/main/java/ZoneLedger.java");
-    private static final Set<String> LIBRARY = Set.of("length", "charAt", "isEmpty", "equals", "indexOf", "substring",
-            "toCharArray", "max", "min", "abs", "fill", "arraycopy", "copyOf", "copyOfRange", "clone", "<init>");
+    private static final Set<String> LIBRARY = Set.of("java.lang.String.length", "java.lang.String.charAt",
+            "java.lang.String.isEmpty", "java.lang.String.equals", "java.lang.String.indexOf",
+            "java.lang.String.substring", "java.lang.String.toCharArray", "java.lang.Math.max", "java.lang.Math.min",
+            "java.lang.Math.abs", "java.util.Arrays.fill", "java.util.Arrays.copyOf", "java.util.Arrays.copyOfRange",
+            "java.lang.System.arraycopy", "java.lang.Object.<init>");
+    private static final Set<String> PLAIN_TYPES = Set.of("int", "long", "short", "byte", "char", "boolean", "String");
 
     private final Checks checks = new Checks();
     private final Map<Element, Set<Element>> calls = new HashMap<>();
     private final Map<Element, String> names = new HashMap<>();
     private final Set<String> madeOutsideConstructors = new TreeSet<>();
+    private final Set<String> publicNames = new HashSet<>();
+    private final Set<String> privateNames = new HashSet<>();
+    private final Set<String> ownClasses = new HashSet<>();
+    private final Set<String> typesSeen = new TreeSet<>();
+    private final Set<String> constantArrays = new HashSet<>();
+    private final Set<String> arraysWritten = new HashSet<>();
     private int classes;
 
     public static void main(String[] args) throws IOException {
@@ -66,6 +84,16 @@ public final class LanguageTest {
             new Walk(Trees.instance(task), unit).scan(unit, null);
         }
         checks.holds("classes: " + classes, classes <= 12);
+        for (String name : privateNames) {
+            checks.holds("private " + name + " bears no public method's name", !publicNames.contains(name));
+        }
+        for (String type : typesSeen) {
+            String part = type.endsWith("[]") ? type.substring(0, type.length() - 2) : type;
+            checks.holds("type " + type, PLAIN_TYPES.contains(part) || ownClasses.contains(part));
+        }
+        for (String name : constantArrays) {
+            checks.holds(name + " is never changed", !arraysWritten.contains(name));
+        }
         checks.holds("made outside of constructors: " + madeOutsideConstructors,
                 madeOutsideConstructors.equals(Set.of("zone: NoSuchElementException", "prepare: Drive")));
         for (Element method : calls.keySet()) {
@@ -112,12 +140,14 @@ public final class LanguageTest {
         @Override
         public Void visitClass(ClassTree tree, Void v) {
             classes++;
+            ownClasses.add(tree.getSimpleName().toString());
             int fields = 0;
             for (Tree member : tree.getMembers()) {
                 if (member instanceof VariableTree) {
                     Set<Modifier> modifiers = ((VariableTree) member).getModifiers().getFlags();
                     if (modifiers.contains(Modifier.STATIC)) {
                         checks.holds(member + " is final", modifiers.contains(Modifier.FINAL));
+                        constant((VariableTree) member);
                     } else {
                         fields++;
                     }
@@ -127,9 +157,76 @@ public final class LanguageTest {
             return super.visitClass(tree, v);
         }
 
+        private void constant(VariableTree tree) {
+            if (tree.getType().toString().endsWith("[]")) {
+                checks.holds(tree.getName() + " is written out", tree.getInitializer() instanceof NewArrayTree
+                        && ((NewArrayTree) tree.getInitializer()).getInitializers() != null);
+                constantArrays.add(tree.getName().toString());
+            } else {
+                checks.holds(tree.getName() + " is a number, a sign or a text",
+                        PLAIN_TYPES.contains(tree.getType().toString()));
+            }
+        }
+
+        @Override
+        public Void visitVariable(VariableTree tree, Void v) {
+            typesSeen.add(tree.getType().toString());
+            return super.visitVariable(tree, v);
+        }
+
+        private void written(Tree target) {
+            if (target instanceof ArrayAccessTree) {
+                arraysWritten.add(((ArrayAccessTree) target).getExpression().toString());
+            }
+        }
+
+        @Override
+        public Void visitAssignment(AssignmentTree tree, Void v) {
+            written(tree.getVariable());
+            return super.visitAssignment(tree, v);
+        }
+
+        @Override
+        public Void visitCompoundAssignment(CompoundAssignmentTree tree, Void v) {
+            written(tree.getVariable());
+            return super.visitCompoundAssignment(tree, v);
+        }
+
+        @Override
+        public Void visitUnary(UnaryTree tree, Void v) {
+            written(tree.getExpression());
+            return super.visitUnary(tree, v);
+        }
+
+        /** Texts are not joined by +, nor held against one another by == or !=. */
+        @Override
+        public Void visitBinary(BinaryTree tree, Void v) {
+            TypeMirror left = trees.getTypeMirror(new TreePath(getCurrentPath(), tree.getLeftOperand()));
+            TypeMirror right = trees.getTypeMirror(new TreePath(getCurrentPath(), tree.getRightOperand()));
+            if (left.toString().equals("java.lang.String") || right.toString().equals("java.lang.String")) {
+                refuse(tree);
+            }
+            return super.visitBinary(tree, v);
+        }
+
+        @Override
+        public Void visitBlock(BlockTree tree, Void v) {
+            // Outside of a method a block is an initialiser.
+            if (method == null) {
+                refuse(tree);
+            }
+            return super.visitBlock(tree, v);
+        }
+
         @Override
         public Void visitMethod(MethodTree tree, Void v) {
             method = tree;
+            Set<Modifier> modifiers = tree.getModifiers().getFlags();
+            if (modifiers.contains(Modifier.PUBLIC)) {
+                publicNames.add(tree.getName().toString());
+            } else if (modifiers.contains(Modifier.PRIVATE) && !tree.getName().contentEquals("<init>")) {
+                privateNames.add(tree.getName().toString());
+            }
             methodElement = trees.getElement(getCurrentPath());
             names.put(methodElement, methodElement.getEnclosingElement().getSimpleName() + "." + tree.getName());
             calls.put(methodElement, new HashSet<>());
@@ -150,8 +247,8 @@ public final class LanguageTest {
             Element called = trees.getElement(getCurrentPath());
             String owner = called.getEnclosingElement().toString();
             if (!owner.startsWith("ZoneLedger")) {
-                String name = called.getSimpleName().toString();
-                checks.holds(owner + "." + name + " is in the library's list", LIBRARY.contains(name));
+                String name = owner + "." + called.getSimpleName();
+                checks.holds(name + " is in the library's list", LIBRARY.contains(name));
             }
             if (method != null) {
                 calls.get(methodElement).add(called);
